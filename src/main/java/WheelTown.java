@@ -105,7 +105,7 @@ public final class WheelTown {
         parser.told = old;
         tapeLength = 0;
         readings.count = 0;
-        forgetTown();
+        lookAnew();
         return town.lines;
     }
 
@@ -120,10 +120,10 @@ public final class WheelTown {
         }
     }
 
-    /** What was worked out of the TOWN is worked out anew when it is asked for next. */
-    private void forgetTown() {
-        stretches.fresh = false;
-        walks.fresh = false;
+    /** What is dear to work out of the TOWN waits until it is asked for next. */
+    private void lookAnew() {
+        stretches.lay(town);
+        walks.forget();
         supposed.fresh = false;
     }
 
@@ -145,6 +145,11 @@ public final class WheelTown {
         return number >= least && number <= greatest;
     }
 
+    /** The number of the lowest bit that is set. */
+    private static int firstBit(int bits) {
+        return Integer.bitCount((bits & -bits) - 1);
+    }
+
     /** A span has a DAY at least; its end is not among its DAYS. */
     private static boolean isSpan(int from, int to) {
         return from >= 0 && from < to && to <= DAYS;
@@ -154,28 +159,20 @@ public final class WheelTown {
         return day < YEAR_DAYS ? 0 : 1;
     }
 
-    private Stretches laid() {
-        if (!stretches.fresh) {
-            stretches.lay(town);
-        }
-        return stretches;
-    }
-
     public int flow(int meter, int day, int what) {
         if (!isMeter(meter) || !isDay(day) || !isWithin(what, 0, 3)) {
             return NONE_SUCH;
         }
-        Stretches s = laid();
-        int i = s.ofDay[day];
+        int i = stretches.ofDay[day];
         switch (what) {
             case 0:
-                return s.own[meter][i];
+                return stretches.own[meter][i];
             case 1:
-                return s.through[meter][i];
+                return stretches.through[meter][i];
             case 2:
-                return s.ahead[meter][i];
+                return stretches.ahead[meter][i];
             default:
-                return s.through[meter][i] + s.ahead[meter][i];
+                return stretches.through[meter][i] + stretches.ahead[meter][i];
         }
     }
 
@@ -187,8 +184,7 @@ public final class WheelTown {
     }
 
     private int throughOn(int meter, int day) {
-        Stretches s = laid();
-        return s.through[meter][s.ofDay[day]];
+        return stretches.through[meter][stretches.ofDay[day]];
     }
 
     private int turnsOn(int meter, int day) {
@@ -205,8 +201,7 @@ public final class WheelTown {
     }
 
     private void tallyBy(int meter, int fault) {
-        Stretches s = laid();
-        tally.fill(s, town.meters[meter], fault, s.through[meter], 0);
+        tally.fill(stretches, town.meters[meter], fault, stretches.through[meter], 0);
     }
 
     private int talliedWheel(int meter, int day) {
@@ -217,7 +212,7 @@ public final class WheelTown {
 
     public int reading(int meter, int day, int wheel, int sort) {
         if (!isMeter(meter) || !isDay(day) || !isWithin(sort, 0, SORTS - 1)
-                || !isWithin(wheel, 0, town.meters[meter].modulus() - 1)) {
+                || !isWithin(wheel, 0, town.meters[meter].modulus - 1)) {
             return NONE_SUCH;
         }
         return tell(meter, day, wheel, sort);
@@ -358,8 +353,7 @@ public final class WheelTown {
         if (lost == NONE) {
             return NOTHING;
         }
-        Stretches s = laid();
-        lost -= s.total(s.own[meter], from, to);
+        lost -= stretches.total(stretches.own[meter], from, to);
         for (int below = meter + 1; below < town.meterCount; below++) {
             if (town.meters[below].parent == meter) {
                 int one = balance(below, from, to, 1 - what);
@@ -435,7 +429,7 @@ public final class WheelTown {
         if ((bits & 1) != 0) {
             return 0;
         }
-        return Integer.bitCount(bits) == 1 ? Integer.numberOfTrailingZeros(bits) : NONE;
+        return Integer.bitCount(bits) == 1 ? firstBit(bits) : NONE;
     }
 
     public int ways(int meter) {
@@ -450,7 +444,7 @@ public final class WheelTown {
 
     private Supposed sought() {
         if (!supposed.fresh) {
-            supposed.seek(town, readings, laid());
+            supposed.seek(town, readings, stretches);
         }
         return supposed;
     }
@@ -532,9 +526,9 @@ public final class WheelTown {
 
     // ---- WALKS
 
-    private Walks walked() {
-        if (!walks.fresh) {
-            walks.lay(town);
+    private Walks walkedPast(int set) {
+        if (!walks.isReady(set)) {
+            walks.lay(town, set);
         }
         return walks;
     }
@@ -545,7 +539,7 @@ public final class WheelTown {
     }
 
     public int walk(int set) {
-        return isWalkable(set) ? walked().minutes(set) : NONE_SUCH;
+        return isWalkable(set) ? walkedPast(set).minutes(set) : NONE_SUCH;
     }
 
     public int step(int set, int i) {
@@ -555,14 +549,14 @@ public final class WheelTown {
         if (i < 0 || i >= Integer.bitCount(set)) {
             return NONE;
         }
-        return walked().meterAlong(set, i);
+        return walkedPast(set).meterAlong(set, i);
     }
 
     public int round(int minutes, int day) {
         if (!isDay(day) || !isWithin(minutes, 0, 9999) || town.meterCount == 0) {
             return NONE_SUCH;
         }
-        Walks w = walked();
+        Walks w = walkedPast((1 << town.meterCount) - 1);
         for (int m = 0; m < town.meterCount; m++) {
             w.gains[m] = unlikeWheels(m, day);
         }
@@ -612,8 +606,8 @@ public final class WheelTown {
         if (billed < 0) {
             return NOTHING;
         }
-        Stretches s = laid();
-        return billed - town.tariffs[yearOf(from)].billOf(s.total(s.through[meter], from, to));
+        int through = stretches.total(stretches.through[meter], from, to);
+        return billed - town.tariffs[yearOf(from)].billOf(through);
     }
 
     public int share(int meter, int from, int to, int what) {
@@ -952,7 +946,7 @@ public final class WheelTown {
         }
         long behind = day - readings.days[latter];
         long more = countedFrom(meter, former, latter) * behind / between;
-        return (int) ((readings.wheels[latter] + more) % town.meters[meter].modulus());
+        return (int) ((readings.wheels[latter] + more) % town.meters[meter].modulus);
     }
 
     // ---- counts and IMAGES
@@ -1010,7 +1004,7 @@ public final class WheelTown {
         }
         town.copyFrom(keptTowns[k]);
         readings.copyFrom(keptReadings[k]);
-        forgetTown();
+        lookAnew();
         return 0;
     }
 
@@ -1091,6 +1085,8 @@ public final class WheelTown {
         int use = 0;
         int summer = 0;
         int digits = 3;
+        /** 10 to the DIGITS: what the WHEEL goes over its end at, 1000 at least. */
+        int modulus = 1000;
         int start = 0;
         int age = 0;
         int x = 0;
@@ -1104,6 +1100,7 @@ public final class WheelTown {
             use = other.use;
             summer = other.summer;
             digits = other.digits;
+            modulus = other.modulus;
             start = other.start;
             age = other.age;
             x = other.x;
@@ -1117,16 +1114,12 @@ public final class WheelTown {
             return n >= 0 && n < POWERS.length ? POWERS[n] : 1;
         }
 
-        int modulus() {
-            return powerOfTen(digits);
-        }
-
         int shownAfter(int turns) {
-            return Math.floorMod(start + turns, modulus());
+            return Math.floorMod(start + turns, modulus);
         }
 
         int countedFrom(int former, int latter) {
-            return Math.floorMod(latter - former, modulus());
+            return Math.floorMod(latter - former, modulus);
         }
     }
 
@@ -1277,6 +1270,15 @@ public final class WheelTown {
             return bits;
         }
 
+        boolean hasBelow(int meter) {
+            for (int m = meter + 1; m < meterCount; m++) {
+                if (meters[m].parent == meter) {
+                    return true;
+                }
+            }
+            return false;
+        }
+
         int minutesBetween(int a, int b) {
             return Math.abs(meters[a].x - meters[b].x) + Math.abs(meters[a].y - meters[b].y);
         }
@@ -1292,6 +1294,7 @@ public final class WheelTown {
         static final int NUMBER = 2;
         static final int SIGN = 3;
         static final int NO_TOKEN = 4;
+        /** All numbers above it are out of all bounds, so that it stands for them. */
         static final int NUMBER_CAP = 10000000;
 
         static final int CANT_STAND = 1;
@@ -1319,7 +1322,22 @@ public final class WheelTown {
             told.clear();
             advance();
             for (int i = 0; i <= length && fault == 0 && kind != END; i++) {
-                line(from);
+                int start = from;
+                if (takesWord("meter")) {
+                    meterLine(start);
+                } else if (takesWord("leak")) {
+                    leakLine(start);
+                } else if (takesWord("flush")) {
+                    flushLine(start);
+                } else if (takesWord("empty")) {
+                    emptyLine(start);
+                } else if (takesWord("court")) {
+                    courtLine();
+                } else if (takesWord("tariff")) {
+                    tariffLine();
+                } else {
+                    fail(CANT_STAND, start);
+                }
             }
         }
 
@@ -1356,18 +1374,13 @@ public final class WheelTown {
                 }
             } else if (isDigitAt(at)) {
                 kind = NUMBER;
-                advanceNumber();
+                value = 0;
+                while (at < length && isDigitAt(at)) {
+                    value = Math.min(NUMBER_CAP, value * 10 + (text[at] - '0'));
+                    at++;
+                }
             } else {
                 kind = text[at] == ';' ? SIGN : NO_TOKEN;
-                at++;
-            }
-        }
-
-        /** All numbers above the cap are out of all bounds, so that it stands for them. */
-        void advanceNumber() {
-            value = 0;
-            while (at < length && isDigitAt(at)) {
-                value = Math.min(NUMBER_CAP, value * 10 + (text[at] - '0'));
                 at++;
             }
         }
@@ -1392,12 +1405,6 @@ public final class WheelTown {
             return true;
         }
 
-        void word(String word) {
-            if (!takesWord(word)) {
-                fail(CANT_STAND, from);
-            }
-        }
-
         int number(int least, int greatest) {
             if (fault != 0) {
                 return 0;
@@ -1417,7 +1424,9 @@ public final class WheelTown {
         }
 
         int field(String word, int least, int greatest) {
-            word(word);
+            if (!takesWord(word)) {
+                fail(CANT_STAND, from);
+            }
             return number(least, greatest);
         }
 
@@ -1435,24 +1444,6 @@ public final class WheelTown {
             }
         }
 
-        void line(int start) {
-            if (takesWord("meter")) {
-                meterLine(start);
-            } else if (takesWord("leak")) {
-                leakLine(start);
-            } else if (takesWord("flush")) {
-                flushLine(start);
-            } else if (takesWord("empty")) {
-                emptyLine(start);
-            } else if (takesWord("court")) {
-                courtLine();
-            } else if (takesWord("tariff")) {
-                tariffLine();
-            } else {
-                fail(CANT_STAND, start);
-            }
-        }
-
         void meterLine(int start) {
             int number = told.meterCount;
             if (number >= METERS_MOST) {
@@ -1464,6 +1455,7 @@ public final class WheelTown {
             m.use = field("use", 0, 999);
             m.summer = optionalField("summer", 0, 999, 0);
             m.digits = field("digits", 3, 6);
+            m.modulus = Meter.powerOfTen(m.digits);
             m.start = optionalField("start", 0, 999999, 0);
             m.age = field("age", 0, 40);
             m.x = field("at", 0, 99);
@@ -1494,13 +1486,9 @@ public final class WheelTown {
             return takesWord("old") ? 6 : 0;
         }
 
-        int toldMeter() {
-            return number(0, told.meterCount - 1);
-        }
-
         /** A METER with a PIPE ahead of it, from another one above. */
         int pipedMeter() {
-            int m = toldMeter();
+            int m = number(0, told.meterCount - 1);
             if (fault == 0 && told.meters[m].parent == NONE) {
                 fail(OUT_OF_BOUNDS, numberFrom);
             }
@@ -1541,7 +1529,7 @@ public final class WheelTown {
                 return;
             }
             Event e = told.empties[told.emptyCount];
-            e.meter = toldMeter();
+            e.meter = number(0, told.meterCount - 1);
             e.amount = 0;
             e.from = field("from", 0, DAYS - 1);
             e.to = field("to", e.from, DAYS - 1);
@@ -1550,7 +1538,7 @@ public final class WheelTown {
         }
 
         void courtLine() {
-            int m = toldMeter();
+            int m = number(0, told.meterCount - 1);
             if (fault == 0 && told.meters[m].homes > 0) {
                 fail(OUT_OF_BOUNDS, numberFrom);
             }
@@ -1670,7 +1658,6 @@ public final class WheelTown {
         final int[][] through = new int[METERS_MOST][MOST];
         /** What goes through without any LEAK. */
         final int[][] dry = new int[METERS_MOST][MOST];
-        boolean fresh = false;
 
         void lay(Town town) {
             Arrays.fill(ofDay, (byte) 0);
@@ -1684,7 +1671,6 @@ public final class WheelTown {
             for (int m = town.meterCount - 1; m >= 0; m--) {
                 fill(town, m);
             }
-            fresh = true;
         }
 
         void cutAt(int day) {
@@ -1836,9 +1822,14 @@ public final class WheelTown {
             firstSince = NONE;
             int unfitDry = 0;
             for (int m = 0; m < town.meterCount; m++) {
+                Meter meter = town.meters[m];
                 gather(readings, m);
-                if (!fillBelow(town.meters[m], s, m)) {
+                dry.fill(s, meter, meter.fault, s.dry[m], 0);
+                if (!fitsSince(meter, s, DAYS)) {
                     unfitDry |= 1 << m;
+                }
+                if (town.hasBelow(m)) {
+                    fillBelow(meter, s, m);
                 }
             }
             for (int m = 0; m < town.meterCount; m++) {
@@ -1860,19 +1851,15 @@ public final class WheelTown {
             }
         }
 
-        /** Answers whether the METER fits without any LEAK below it. */
-        boolean fillBelow(Meter meter, Stretches s, int number) {
-            int[] flows = s.dry[number];
-            dry.fill(s, meter, meter.fault, flows, 0);
+        void fillBelow(Meter meter, Stretches s, int number) {
             for (int rate = 1; rate <= RATE_MOST; rate++) {
                 int bits = ALL_SINCES;
                 if (firmCount > 0) {
-                    wet.fill(s, meter, meter.fault, flows, rate);
+                    wet.fill(s, meter, meter.fault, s.dry[number], rate);
                     bits = sincesThatFit(meter, s);
                 }
                 below[number][rate] = bits;
             }
-            return fitsSince(meter, s, DAYS);
         }
 
         int sincesThatFit(Meter meter, Stretches s) {
@@ -1885,6 +1872,7 @@ public final class WheelTown {
             return bits;
         }
 
+        /** Since DAY 730 there is no LEAK on any DAY. */
         boolean fitsSince(Meter meter, Stretches s, int since) {
             int shift = dry.upTo(s, since - 1) - wet.upTo(s, since - 1);
             for (int i = 0; i < firmCount; i++) {
@@ -1911,7 +1899,7 @@ public final class WheelTown {
                 if (bits != 0 && firstPipe == NONE) {
                     firstPipe = pipe;
                     firstRate = rate;
-                    firstSince = SINCE_STEP * Integer.numberOfTrailingZeros(bits);
+                    firstSince = SINCE_STEP * firstBit(bits);
                 }
             }
         }
@@ -1944,27 +1932,44 @@ public final class WheelTown {
         final int[] costs = new int[METERS_MOST];
         final int[][] minutes = new int[METERS_MOST][METERS_MOST];
         int meterCount = 0;
-        boolean fresh = false;
+        /** The METERS of which all sets are worked out. */
+        int readySet = 0;
 
-        void lay(Town town) {
+        void forget() {
+            readySet = 0;
+        }
+
+        boolean isReady(int set) {
+            return readySet != 0 && (set & ~readySet) == 0;
+        }
+
+        /** METER 0 is always in the ready set, so that it is never empty. */
+        void lay(Town town, int set) {
             if (rest.length == 0) {
                 rest = new short[SETS / 2 * METERS_MOST];
             }
+            readySet |= set | 1;
             meterCount = town.meterCount;
             for (int a = 0; a < meterCount; a++) {
                 for (int b = 0; b < meterCount; b++) {
                     minutes[a][b] = town.minutesBetween(a, b);
                 }
             }
-            int halves = 1 << meterCount >> 1;
-            for (int half = 0; half < halves; half++) {
-                for (int from = 0; from < meterCount; from++) {
-                    if ((half << 1 >> from & 1) == 0) {
-                        rest[half * METERS_MOST + from] = (short) fewestFrom(half, from);
-                    }
+            int all = readySet >> 1;
+            int half = 0;
+            for (int i = 0; i < 1 << Integer.bitCount(all); i++) {
+                layHalf(half);
+                half = half - all & all;
+            }
+        }
+
+        void layHalf(int half) {
+            int froms = readySet & ~(half << 1);
+            for (int from = 0; from < meterCount; from++) {
+                if ((froms >> from & 1) != 0) {
+                    rest[half * METERS_MOST + from] = (short) fewestFrom(half, from);
                 }
             }
-            fresh = true;
         }
 
         /** A half is a set without its bit of METER 0, one place down; from is not in it. */
@@ -1975,7 +1980,7 @@ public final class WheelTown {
             int fewest = Integer.MAX_VALUE;
             int left = half;
             for (int i = 0; i < METERS_MOST && left != 0; i++) {
-                int next = Integer.numberOfTrailingZeros(left) + 1;
+                int next = firstBit(left) + 1;
                 fewest = Math.min(fewest, throughNext(half, from, next));
                 left &= left - 1;
             }
@@ -2010,7 +2015,7 @@ public final class WheelTown {
                     return m;
                 }
             }
-            return Integer.numberOfTrailingZeros(half) + 1;
+            return firstBit(half) + 1;
         }
 
         void readySums() {
@@ -2024,7 +2029,7 @@ public final class WheelTown {
         void sumUp(int[] sums, int[] ones, int meters) {
             sums[0] = 0;
             for (int set = 1; set < 1 << meters; set++) {
-                sums[set] = sums[set & set - 1] + ones[Integer.numberOfTrailingZeros(set)];
+                sums[set] = sums[set & set - 1] + ones[firstBit(set)];
             }
         }
 

@@ -1270,7 +1270,7 @@ public final class ModelTest {
                 parent[m] = m > 0 && random.nextInt(5) > 0 ? deep ? m - 1 : random.nextInt(m) : NONE;
                 s.append(meterLine(parent[m]));
             }
-            int events = s.length() > 800 ? 3 : 8;
+            int events = s.length() > 800 ? 3 : n < 4 && random.nextInt(4) == 0 ? 40 : 8;
             int[] told = new int[3];
             boolean[] courts = new boolean[12];
             for (int i = 0; i < events && n > 0; i++) {
@@ -1366,6 +1366,8 @@ public final class ModelTest {
                 int a = random.nextInt(f.size() - 1);
                 d = f.get(a).day + 1;
                 to = f.get(a + 1 + random.nextInt(f.size() - a - 1)).day + 1;
+                d += random.nextInt(4) == 0 ? random.nextInt(3) - 1 : 0;
+                to += random.nextInt(4) == 0 ? random.nextInt(3) - 1 : 0;
             }
             switch (which) {
                 case 2 -> check(2, x.town(), y.town());

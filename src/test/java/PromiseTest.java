@@ -241,6 +241,13 @@ public final class PromiseTest {
         right("meter\nuse\n1 digits 3 age 0 at 0 0\n;\n", 1);
         right("meter use 001 digits 0000000000000003 age 0 at 0 0;", 1);
         faulty("meter use 1 digits 3 age 0 at 00;", 1, 32);
+        faulty("zebra", 1, 0);
+        faulty("meter uze", 1, 6);
+        faulty("leter", 1, 0);
+        faulty("meter use 1 digits 3 age 0 at 0 0; {", 1, 35);
+        faulty("meter use 1 digits 3 age 0 at 0 0; `", 1, 35);
+        faulty("meter use /", 1, 10);
+        faulty("meter use :", 1, 10);
         right("meter use 0 summer 0 digits 3 start 0 age 0 at 0 0 crawl;", 1);
         right("meter use 999 summer 999 digits 6 start 999999 age 40 at 99 99 backward;", 1);
         right("tariff 1 standing 0 first 0 upto 0 beyond 0;", 1);
@@ -276,7 +283,9 @@ public final class PromiseTest {
         faulty(two + "empty 0 from 730 to 730;", 2, n + 13);
         faulty(two + "empty 0 from 5 to 4;", 2, n + 18);
         faulty(two + "empty 0 from 5 to 730;", 2, n + 18);
-        right(two + "empty 0 from 5 to 5;empty 0 from 0 to 729;", 4);
+        right(two + "empty 0 from 5 to 5;empty 0 from 0 to 729;empty 1 from 729 to 729;", 5);
+        right(two + "flush 1 litres 9999 on 729;flush 1 litres 1 on 0;", 4);
+        right(two + "leak 1 rate 999 since 729;leak 1 rate 1 since 0;", 4);
         faulty(two + "court 2 homes 1 landlord 0;", 2, n + 6);
         faulty(two + "court 0 homes 0 landlord 0;", 2, n + 14);
         faulty(two + "court 0 homes 100 landlord 0;", 2, n + 14);
@@ -364,6 +373,35 @@ public final class PromiseTest {
         due("empties that overlap", x.flow(0, 710, 1), 5);
         due("through an empty one", x.flow(1, 729, 1), 304);
         due("at the last DAY", x.flow(0, 729, 1), 305);
+        x = of("meter use 1 digits 3 age 0 at 0 0;meter below 0 use 2 digits 3 age 0 at 0 0;"
+                + "flush 1 litres 50 on 20;flush 1 litres 70 on 20;flush 1 litres 90 on 729;");
+        due("ahead of flushes", x.flow(0, 19, 1), 3);
+        due("two flushes", x.flow(0, 20, 1), 123);
+        due("behind flushes", x.flow(0, 21, 1), 3);
+        due("a flush on the last DAY", x.flow(0, 729, 1), 93);
+        manyCuts();
+    }
+
+    /** As many changes as a TOWN can tell of, each on a DAY of its own. */
+    private static void manyCuts() {
+        StringBuilder text = new StringBuilder("meter use 1 digits 6 age 0 at 0 0;"
+                + "meter below 0 use 100 digits 6 age 0 at 0 0;");
+        for (int i = 0; i < 6; i++) {
+            text.append("leak 1 rate 1 since ").append(100 * i + 1).append(';');
+            text.append("flush 1 litres 1000 on ").append(100 * i + 11).append(';');
+            text.append("empty 1 from ").append(100 * i + 31).append(" to ").append(100 * i + 40).append(';');
+        }
+        WheelTown x = of(text.toString());
+        int turns = 0;
+        for (int day = 0; day < 730; day++) {
+            int leaks = Math.min(6, (day + 99) / 100);
+            int of = day % 100;
+            boolean early = day < 600;
+            int due = 1 + leaks + (early && of == 11 ? 1000 : 0) + (early && of >= 31 && of <= 40 ? 0 : 100);
+            turns += due;
+            due("many cuts, flow(0, " + day + ", 1)", x.flow(0, day, 1), due);
+            due("many cuts, wheel(0, " + day + ")", x.wheel(0, day), turns);
+        }
     }
 
     private static void promise7() {
@@ -384,11 +422,18 @@ public final class PromiseTest {
                 + "meter use 51 digits 3 age 40 at 0 0 half;meter use 51 digits 3 age 40 at 0 0 double;"
                 + "meter use 51 digits 3 age 40 at 0 0 old;meter use 51 digits 3 age 40 at 0 0 crawl;"
                 + "meter use 51 digits 3 age 40 at 0 0;");
+        // 20.4 and (in YEAR 1) 20.91 of 51 are cut to 20
         int[] want = {0, -51, 25, 102, 11, 31, 51};
         for (int m = 0; m < 7; m++) {
             due("turned(" + m + ", 0)", x.turned(m, 0), want[m]);
         }
         due("crawl by 41", x.turned(5, 729), 31);
+        x = of("meter use 910 digits 3 age 0 at 0 0 old;meter use 909 digits 3 age 0 at 0 0 old;"
+                + "meter use 999 digits 3 age 0 at 0 0 crawl;");
+        due("old, 200", x.turned(0, 0), 200);
+        due("old, 199.78", x.turned(1, 0), 199);
+        due("crawl by 0", x.turned(2, 364), 999);
+        due("crawl by 1", x.turned(2, 365), 990);
     }
 
     private static void promise8() {
@@ -412,6 +457,12 @@ public final class PromiseTest {
         due("backward", x.wheel(0, 0), 156);
         due("below 0", x.wheel(0, 1), 856);
         due("start by DIGITS", x.wheel(1, 0), 999);
+        x = of("meter use 999 digits 5 age 0 at 0 0;meter use 999 digits 6 start 999000 age 0 at 0 0;"
+                + "meter use 100 digits 6 age 39 at 0 0 crawl;");
+        due("5 DIGITS", x.wheel(0, 100), 899);
+        due("6 DIGITS", x.wheel(1, 1), 998);
+        due("crawl in YEAR 0", x.wheel(2, 364), 61 * 365);
+        due("crawl in YEAR 1", x.wheel(2, 729), 61 * 365 + 60 * 365);
     }
 
     private static void readingsTold() {
@@ -574,6 +625,9 @@ public final class PromiseTest {
         due("balance(0, 1, 731, 0)", x.balance(0, 1, 731, 0), -2);
         due("balance(0, 1, 3, 2)", x.balance(0, 1, 3, 2), -2);
         due("balance(0, 1, 3, -1)", x.balance(0, 1, 3, -1), -2);
+        due("one at the end of DAY to is too late", x.balance(0, 1, 5, 0), 267);
+        due("one at the end of DAY to less 1 is not", x.balance(0, 1, 6, 0), 478);
+        due("one at the end of DAY from less 2 is too early", x.balance(0, 2, 6, 0), 211);
         int[] wheels = {0, 900, 100, 0};
         for (int day = 0; day < 4; day++) {
             x.reading(1, day, wheels[day], day % 2);
@@ -675,6 +729,12 @@ public final class PromiseTest {
         due("alone(2)", x.alone(2), 4);
         due("alone(3)", x.alone(3), NONE);
         due("alone(-1)", x.alone(-1), NONE);
+        x.undo(1);
+        promise = 19;
+        due("0 for those without READINGS", x.sets(), 1);
+        promise = 18;
+        due("fewest()", x.fewest(), 1);
+        promise = 20;
         x.reading(2, 2, 31, 0);
         due("none fits", x.alone(0), NONE);
         promise = 18;
@@ -969,6 +1029,7 @@ public final class PromiseTest {
         x.reading(0, 365, 800, 0);
         due("by the YEAR of from", x.billed(0, 6, 366), 100 + 50 + 90);
         due("without a tariff", x.billed(0, 365, 366), NONE);
+        nothingBilled();
         promise = 31;
         x = guessed();
         due("the greatest BALANCE can't be told", x.owed(0, 3, 6, 0), NOTHING);
@@ -985,6 +1046,24 @@ public final class PromiseTest {
         due("owed(0, 3, 731, 0)", x.owed(0, 3, 731, 0), NOTHING);
     }
 
+    private static void nothingBilled() {
+        WheelTown x = of("meter use 5 digits 3 age 0 at 0 0 stuck;court 0 homes 1 landlord 0;"
+                + "tariff 0 standing 0 first 100 upto 0 beyond 200;");
+        x.read(0, 0, NONE);
+        x.read(0, 10, NONE);
+        promise = 30;
+        due("0 is told", x.billed(0, 1, 11), 0);
+        promise = 31;
+        due("owed(0, 1, 11, 0)", x.owed(0, 1, 11, 0), 0);
+        promise = 45;
+        due("appeal(0, 1, 11)", x.appeal(0, 1, 11), -10);
+        promise = 46;
+        due("one home", x.share(0, 1, 11, 0), 0);
+        x.reading(0, 20, 100, 1);
+        due("one home pays all", x.share(0, 11, 21, 0), 20);
+        due("none is left", x.share(0, 11, 21, 2), 0);
+    }
+
     private static void promise32and33() {
         promise = 33;
         WheelTown x = base();
@@ -997,6 +1076,7 @@ public final class PromiseTest {
         due("won(0, 730)", x.won(0, 730), -2);
         due("won(0, -1)", x.won(0, -1), -2);
         promise = 32;
+        due("change(0, 0)", x.change(0, 0), 0);
         due("change(499, 0)", x.change(499, 0), 0);
         due("change(500, 0)", x.change(500, 0), 2);
         due("change(600, 0)", x.change(600, 0), 4);
@@ -1097,6 +1177,9 @@ public final class PromiseTest {
         x = of("meter use 1 digits 3 age 0 at 0 0;meter below 0 use 1 digits 3 age 0 at 0 0;"
                 + "leak 1 rate 5 since 0;");
         due("the first of several", x.loudest(0), 0);
+        x = of("meter use 1 digits 3 age 0 at 0 0;meter below 0 use 1 digits 3 age 0 at 0 1;"
+                + "leak 1 rate 1 since 0;");
+        due("by 1 alone", x.loudest(0), 1);
     }
 
     private static void promise37and38() {
@@ -1180,6 +1263,7 @@ public final class PromiseTest {
         x = of("meter use 1 summer 3 digits 3 age 0 at 0 0;empty 0 from 140 to 150;empty 0 from 145 to 159;"
                 + "empty 0 from 600 to 729;");
         due("what overlaps, once", x.vacant(0), 20 + 130);
+        due("from the first DAY on", of("meter use 1 digits 3 age 0 at 0 0;empty 0 from 0 to 1;").vacant(0), 2);
         promise = 47;
         due("EMPTY DAYS aside", x.garden(0, 0), 3 * 80);
         due("garden(0, 1)", x.garden(0, 1), 3 * 85);
@@ -1201,6 +1285,9 @@ public final class PromiseTest {
         due("guess(0, 1)", x.guess(0, 1), NONE);
         due("guess(0, 729)", x.guess(0, 729), (632 + 285 * 722 / 5) % 10000);
         due("guess(1, 729)", x.guess(1, 729), NONE);
+        due("guess(1, 6), none at all", x.guess(1, 6), NONE);
+        x.reading(1, 8, 194, 1);
+        due("DAYS next to each other, over its end", x.guess(1, 9), 193);
         due("guess(3, 0)", x.guess(3, 0), -2);
         due("guess(-1, 0)", x.guess(-1, 0), -2);
         due("guess(0, 730)", x.guess(0, 730), -2);
@@ -1265,6 +1352,8 @@ public final class PromiseTest {
         due("backward", x.worst(0), 4);
         due("the first of several", x.worst(1), 2);
         due("stuck", x.worst(2), 3);
+        promise = 41;
+        due("METER 0", of("meter use 7 digits 3 age 0 at 0 0 half;").worst(0), 0);
         due("all OFF by 0, or empty", x.worst(3), NONE);
     }
 
@@ -1277,6 +1366,8 @@ public final class PromiseTest {
         due("lot(5, 3, 0, 179)", x.lot(5, 3, 0, 179), 2);
         due("lot(5, 3, 0, 9999)", x.lot(5, 3, 0, 9999), 0);
         due("not told: not", x.lot(5, 3, 5, 0), 1);
+        due("from 0: x / 65536 is 0, METER 0", x.lot(0, 1, 0, 0), 0);
+        due("from 0: then 21468, METER 1", x.lot(0, 2, 0, 0), 1);
         due("METER 1", x.lot(5, 1, 0, 100), 1);
         due("METER 1", x.lot(5, 1, 0, 180), 0);
         due("lot(5, 0, 0, 0)", x.lot(5, 0, 0, 0), -2);
@@ -1338,6 +1429,11 @@ public final class PromiseTest {
         due("beyond DAY 729", x.judge(1, 2, 729), 1);
         x.write(1, 0, 7300 + (1L << 32));
         due("of 8 bytes", x.judge(1, 2, 729), 0);
+        x = of("meter use 9 digits 3 age 0 at 0 0 stuck;");
+        x.row(0, 0, 60);
+        due("all 60", x.judge(0, 0, 670), 60);
+        due("59", x.judge(0, 0, 671), 59);
+        due("one", x.judge(0, 0, 729), 1);
     }
 
     private static void promise52() {
