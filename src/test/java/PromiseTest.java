@@ -87,6 +87,7 @@ public final class PromiseTest {
         faultsOfLines();
         faultsOfNumbers();
         faultsOfTooMany();
+        faultsBehindOthers();
     }
 
     private static void promise1() {
@@ -301,6 +302,29 @@ public final class PromiseTest {
         faulty("leak 0", 2, 5);
         faulty("leak x", 1, 5);
         faulty("leak", 1, 4);
+    }
+
+    /** What other texts left behind is not told ahead. */
+    private static void faultsBehindOthers() {
+        String two = "meter use 1 digits 3 age 0 at 0 0;meter below 0 use 1 digits 3 age 0 at 0 0;";
+        WheelTown x = base();
+        feedText(x, BASE);
+        x.town();
+        for (String line : new String[] {"leak 2 rate 1 since 0;", "flush 2 litres 1 on 0;"}) {
+            x.end(0);
+            feedText(x, two + line);
+            due("town()", x.town(), -4);
+            due("fault(0)", x.fault(0), 2);
+            due("fault(1)", x.fault(1), two.length() + line.indexOf('2'));
+        }
+        x.end(0);
+        feedText(x, two + "court 0 homes 5 landlord 50;tariff 0 standing 7 first 0 upto 0 beyond 0;");
+        due("a court and a tariff, told anew", x.town(), 4);
+        due("bill(0, 0)", x.bill(0, 0), 7);
+        due("no LEAKS", x.count(1), 0);
+        due("no summer", x.flow(0, 150, 1), 2);
+        due("no start", x.wheel(1, 0), 1);
+        due("not empty", x.flow(1, 5, 0), 1);
     }
 
     private static void faultsOfTooMany() {
@@ -762,6 +786,16 @@ public final class PromiseTest {
         due("ways(4)", x.ways(4), -2);
         due("ways(-1)", x.ways(-1), -2);
         due("without READINGS", base().ways(0), 6);
+        x = of("meter use 500 digits 3 age 10 at 0 0;meter use 20 digits 3 age 10 at 0 0;");
+        x.reading(0, 0, 500, 0);
+        x.reading(1, 0, 20, 0);
+        promise = 17;
+        due("right or backward", x.fits(0), 9);
+        due("right alone", x.fits(1), 1);
+        promise = 19;
+        due("all 0", x.sets(), 1);
+        promise = 21;
+        due("0 too", x.ways(0), 1);
     }
 
     private static void choicesCapped() {
@@ -923,6 +957,10 @@ public final class PromiseTest {
         }
         due("step(12, 0)", x.step(12, 0), 3);
         due("another TOWN, other WALKS", walkInAnother(x), 99);
+        x = of("meter use 1 digits 3 age 0 at 9 9;");
+        due("one METER", x.walk(1), 0);
+        due("step(1, 0)", x.step(1, 0), 0);
+        due("walk(2)", x.walk(2), -2);
         twelveInARow();
     }
 
@@ -972,6 +1010,9 @@ public final class PromiseTest {
                 + "meter use 1 digits 3 age 0 at 15 0;");
         due("the least bits", x.round(14, 0), 3);
         due("all", x.round(15, 0), 7);
+        x = of("meter use 1 digits 3 age 0 at 10 0;meter use 1 digits 3 age 0 at 4 0;"
+                + "meter use 1 digits 3 age 0 at 15 0;");
+        due("the shorter one", x.round(6, 0), 5);
     }
 
     private static void bills() {
@@ -1094,6 +1135,11 @@ public final class PromiseTest {
         due("the least bits", x.change(799, 0), 2);
         due("backward", x.change(800, 0), 8);
         due("change(1800, 0)", x.change(1800, 0), 14);
+        x = of("meter use 3 digits 6 age 0 at 0 0 stuck;meter use 3 digits 3 age 0 at 0 0 stuck;");
+        due("the cheaper one", x.change(800, 0), 2);
+        due("both", x.change(1300, 0), 3);
+        x = of("meter use 3 digits 3 age 0 at 0 0 double;meter use 3 digits 3 age 0 at 0 0 stuck;"
+                + "meter use 3 digits 3 age 0 at 0 0 stuck;meter use 3 digits 6 age 0 at 0 0 backward;");
         promise = 33;
         due("double", x.won(0, 0), 0);
         due("backward", x.won(3, 0), 365 * 6);
@@ -1207,6 +1253,10 @@ public final class PromiseTest {
         due("limit(0, 0)", x.limit(0, 0), 0);
         due("limit(30, 5)", x.limit(30, 5), 9999);
         due("limit(99, 150)", x.limit(99, 150), 69);
+        for (int sum = 0; sum < 80; sum++) {
+            int due = sum < 30 ? sum / 3 : sum < 50 ? (sum - 10) / 2 : sum - 30;
+            due("limit(" + sum + ", 0)", x.limit(sum, 0), due);
+        }
         due("limit(999999, 0)", x.limit(999999, 0), 9999);
         due("limit(1000000, 0)", x.limit(1000000, 0), -2);
         due("limit(-1, 0)", x.limit(-1, 0), -2);
@@ -1389,6 +1439,22 @@ public final class PromiseTest {
         due("0", x.lot(2000000000, 1, 0, 0), 0);
         due("0, 3", x.lot(2000000000, 2, 0, 0), 0);
         due("0, 3, 2", x.lot(2000000000, 3, 0, 0), 1);
+        int[] seeds = {0, 1, 7, 123456789, 1999999999};
+        int[][] orders = {{0, 1, 3, 4, 2}, {3, 2, 0, 4, 1}, {4, 2, 3, 0, 1}, {1, 4, 2, 3, 0}, {3, 4, 0, 2, 1}};
+        for (int half = 0; half < 5; half++) {
+            StringBuilder text = new StringBuilder();
+            for (int m = 0; m < 5; m++) {
+                text.append("meter use 2 digits 3 age 0 at 0 0").append(m == half ? " half;" : ";");
+            }
+            x = of(text.toString());
+            for (int i = 0; i < seeds.length; i++) {
+                int drawn = 0;
+                for (int n = 1; n <= 5; n++) {
+                    drawn += orders[i][n - 1] == half ? 1 : 0;
+                    due("lot(" + seeds[i] + ", " + n + ") for " + half, x.lot(seeds[i], n, 0, 0), drawn);
+                }
+            }
+        }
     }
 
     private static void imagesAndSlots() {
