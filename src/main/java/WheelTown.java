@@ -1644,11 +1644,11 @@ public final class WheelTown {
 
     /**
      * Stretches of DAYS on which nothing changes: what goes through is worked out for each of them
-     * instead of each DAY. They are cut on DAYS of SUPPOSED LEAKS too.
+     * instead of each DAY.
      */
     private static final class Stretches {
-        /** 17 cuts by YEARS, summers and SUPPOSED LEAKS, and 30 by what the TOWN tells. */
-        static final int MOST = 48;
+        /** 6 cuts by YEARS and summers, and 30 by what the TOWN tells. */
+        static final int MOST = 36;
 
         final int[] starts = new int[MOST + 1];
         int many = 0;
@@ -1684,9 +1684,6 @@ public final class WheelTown {
                 cutAt(first);
                 cutAt(first + SUMMER_FROM);
                 cutAt(first + SUMMER_TO);
-            }
-            for (int day = 0; day < DAYS; day += Supposed.SINCE_STEP) {
-                cutAt(day);
             }
         }
 

@@ -169,9 +169,162 @@ public final class BoundaryTest {
         errorsAndLots();
         guesses();
         imagesAndSlots();
+        nothingIsLeftOver();
         System.out.println(wrong == 0 ? "all boundaries hold" : wrong + " answers are not as due");
         if (wrong != 0) {
             System.exit(1);
+        }
+    }
+
+    // ---- what was is gone
+
+    /** Twelve METERS below each other, and six of all that there can be six of; of 1,200 bytes at most. */
+    private static String most() {
+        String[] faults = {"", "crawl", "stuck", "backward", "half", "double", "old"};
+        StringBuilder text = new StringBuilder();
+        for (int m = 0; m < 12; m++) {
+            text.append("meter ").append(m == 0 ? "" : "below " + (m - 1) / 2).append(" use ").append(90 - m)
+                    .append(m % 3 == 0 ? "summer 77" : "").append("digits ").append(3 + m % 4)
+                    .append(m % 3 == 1 ? "start 55" : "").append("age 40at ").append(99 - m)
+                    .append(' ').append(7 * m).append(faults[m % 7]).append(';');
+        }
+        for (int i = 0; i < 6; i++) {
+            text.append("leak ").append(11 - i).append("rate 99since ").append(9 * i).append(';');
+            text.append("flush ").append(11 - i).append("litres 99on ").append(9 * i).append(';');
+            text.append("empty ").append(i).append("from 0to ").append(9 * i).append(';');
+        }
+        return text.append("court 0homes 3landlord 9;court 1homes 9landlord 3;")
+                .append("tariff 1standing 1first 2upto 3beyond 4;tariff 0standing 5first 6upto 7beyond 8;").toString();
+    }
+
+    /** All that can be looked at, at many METERS, DAYS and spans. */
+    private static String everything(WheelTown x) {
+        StringBuilder s = new StringBuilder(state(x));
+        int meters = x.count(0);
+        int[] days = {0, 1, 9, 59, 60, 150, 240, 364, 365, 719, 720, 729};
+        for (int day : days) {
+            s.append('\n').append(x.next(day)).append(' ').append(x.loudest(day)).append(' ').append(x.worst(day));
+            s.append(' ').append(x.drought(10, day)).append(' ').append(x.limit(100, day));
+            s.append(' ').append(x.change(2500, day)).append(' ').append(x.round(60, day));
+            s.append(' ').append(x.lot(day, meters, day, 9));
+        }
+        for (int what = 0; what < 4; what++) {
+            s.append(' ').append(x.leak(what));
+            for (int sort = 0; sort < 3; sort++) {
+                s.append(' ').append(x.errors(sort, what));
+            }
+        }
+        for (int m = 0; m <= meters; m++) {
+            s.append('\n').append(x.alone(m)).append(' ').append(x.ways(m)).append(' ').append(x.missed(m));
+            s.append(' ').append(x.readings(m, 0)).append(' ').append(x.readings(m, 1));
+            for (int i = 0; i < 7; i++) {
+                s.append(' ').append(x.counted(m, i)).append(' ').append(x.bursts(m, i)).append(' ');
+                s.append(x.step((1 << meters) - 1, i));
+            }
+            for (int day : days) {
+                s.append(' ').append(x.turned(m, day)).append(' ').append(x.unlike(m, day)).append(' ');
+                s.append(x.won(m, day)).append(' ').append(x.off(m, day)).append(' ').append(x.burst(m, day));
+                s.append(' ').append(x.guess(m, day)).append(' ').append(x.night(m, day));
+                for (int to : new int[] {1, 2, 3, 6, 10, 366, 730}) {
+                    s.append(' ').append(x.billed(m, day, to)).append(' ').append(x.appeal(m, day, to));
+                    for (int what = 0; what < 2; what++) {
+                        s.append(' ').append(x.balance(m, day, to, what)).append(' ').append(x.lost(m, day, to, what));
+                        s.append(' ').append(x.owed(m, day, to, what)).append(' ').append(x.share(m, day, to, what));
+                    }
+                }
+            }
+        }
+        return s.toString();
+    }
+
+    private static void sameAs(String what, WheelTown x, String want) {
+        String got = everything(x);
+        if (!got.equals(want)) {
+            wrong++;
+            System.out.println(sentence + ": " + what + " is\n" + got + "\ndue is\n" + want);
+        }
+    }
+
+    /** READINGS of all METERS, on other DAYS, by other sorts and with other WHEELS for each shift. */
+    private static void readMany(WheelTown x, int shift, int most) {
+        for (int i = 0; i < most; i++) {
+            int meter = (i * 5 + shift) % x.count(0);
+            int day = 2 * i + shift;
+            if (i % 2 == 0) {
+                x.read(meter, day, i % 3 - 1);
+            } else {
+                x.reading(meter, day, 7 * i + shift, (i / 2 + shift) % 3);
+            }
+        }
+    }
+
+    private static void nothingIsLeftOver() {
+        String[] texts = {most(), BASE, "", ONE, most(), BASE, most(), ONE, BASE, ""};
+        WheelTown x = new WheelTown();
+        sentence = "4, in place of another; no READINGS then";
+        for (String text : texts) {
+            tell(x, text);
+            sameAs("a TOWN behind others", x, everything(of(text)));
+            if (!text.isEmpty()) {
+                readMany(x, 3, 100);
+                everything(x);
+            }
+        }
+        for (String text : new String[] {most(), BASE, ONE}) {
+            WheelTown y = of(text);
+            readMany(y, 0, 40);
+            String first = everything(y);
+            int many = y.count(2);
+            sentence = "11, the last n READINGS are gone";
+            readMany(y, 100, 70);
+            everything(y);
+            due("undo", y.undo(y.count(2) - many), many);
+            sameAs("what was ahead of them", y, first);
+            sentence = "53, 54, as IMAGE k has them";
+            y.keep(0);
+            y.undo(many);
+            readMany(y, 5, 60);
+            String second = everything(y);
+            y.keep(1);
+            tell(y, "meter use 3 digits 5 age 1 at 1 1 old;meter below 0 use 4 digits 6 age 2 at 2 2;"
+                    + "leak 1 rate 9 since 1;empty 0 from 2 to 5;court 1 homes 2 landlord 1;"
+                    + "tariff 0 standing 9 first 8 upto 7 beyond 6;");
+            readMany(y, 1, 50);
+            String third = everything(y);
+            y.keep(2);
+            y.back(0);
+            sameAs("IMAGE 0", y, first);
+            y.back(2);
+            sameAs("IMAGE 2", y, third);
+            y.back(1);
+            sameAs("IMAGE 1", y, second);
+            tell(y, text);
+            readMany(y, 0, 40);
+            sameAs("told again", y, first);
+            y.back(2);
+            y.back(0);
+            sameAs("IMAGE 0 again", y, first);
+        }
+        full120();
+    }
+
+    /** Rows that are full to their ends: nothing behind them is looked at. */
+    private static void full120() {
+        sentence = "9, there are 120, of twelve METERS";
+        WheelTown x = of(most());
+        for (int i = 0; i < 120; i++) {
+            x.reading(i % 12, 60 + i / 12, i, i % 3);
+        }
+        due("READINGS", x.count(2), 120);
+        String full = everything(x);
+        due("the 121st", x.reading(0, 729, 0, 0), -3);
+        sameAs("all", x, full);
+        for (int m = 0; m < 12; m++) {
+            due("no READING there", x.billed(m, 100, 200), NONE);
+            due("none ahead", x.balance(m, 1, 60, 1), NONE);
+            due("none ahead", x.guess(m, 59), NONE);
+            due("none behind", x.balance(m, 100, 200, 1), NONE);
+            due("none behind", x.balance(m, 100, 200, 0), 0);
         }
     }
 
@@ -367,6 +520,17 @@ public final class BoundaryTest {
         }
         spans("30, billed", -2, (x, m, from, to) -> x.billed(m, from, to));
         spans("45, appeal", NOTHING, (x, m, from, to) -> x.appeal(m, from, to));
+        sentence = "to the last DAY";
+        // METER 0 uses 10 of 87 each DAY; METERS 1 and 2 count 40 and 10 of 50 and 20
+        WheelTown last = spanned();
+        for (int from = 728; from <= 729; from++) {
+            for (int what = 0; what < 2; what++) {
+                due("lost from " + from, last.lost(0, from, 730, what), (730 - from) * (87 - 10 - 40 - 10));
+                due("balance from " + from, last.balance(0, from, 730, what), (730 - from) * 87);
+            }
+            due("appeal from " + from, last.appeal(0, from, 730), 0);
+            due("appeal of METER 1 from " + from, last.appeal(1, from, 730), from == 728 ? 64 - 68 : 56 - 58);
+        }
         sentence = "DAYS 0 .. 1 are some";
         WheelTown x = spanned();
         due("balance(0, 0, 1, 0)", x.balance(0, 0, 1, 0), 0);
@@ -552,7 +716,7 @@ public final class BoundaryTest {
         due("just ahead of it", of("meter use 100 digits 3 start 999 age 0 at 0 0;").wheel(0, 9), 999);
         due("backward, just 0", of("meter use 1 digits 3 start 1 age 0 at 0 0 backward;").wheel(0, 0), 0);
         due("backward, below", of("meter use 1 digits 3 start 0 age 0 at 0 0 backward;").wheel(0, 0), 999);
-        most();
+        mostThrough();
     }
 
     private static int turns(int use, String fault) {
@@ -560,7 +724,7 @@ public final class BoundaryTest {
     }
 
     /** The most that can go through: twelve METERS, six LEAKS and six FLUSHES, all at once. */
-    private static void most() {
+    private static void mostThrough() {
         sentence = "III, the most that can go through";
         StringBuilder text = new StringBuilder("meter use 999summer 999digits 6age 40at 0 0double;");
         for (int m = 1; m < 12; m++) {

@@ -591,7 +591,33 @@ public final class TextBoundaryTest {
             feedText(x, ONE);
             due("end(" + n + ")", x.end(n), n);
             due("town() of " + n, x.town(), n == 0 ? 0 : -4);
+            WheelTown alone = new WheelTown();
+            feedText(alone, ONE.substring(0, n));
+            alone.town();
+            due("FAULT of the first " + n, x.fault(0), alone.fault(0));
+            due("place of the first " + n, x.fault(1), alone.fault(1));
         }
+        x = new WheelTown();
+        feedText(x, ONE + "olderwords 12345;");
+        x.end(37);
+        due("old", x.town(), -4);
+        due("a word that can't stand, not longer than it is", x.fault(1), 34);
+        x = new WheelTown();
+        feedText(x, "meter use 9999");
+        x.end(12);
+        due("a number of what is left alone", x.town(), -4);
+        due("its end", x.fault(1), 12);
+        x = new WheelTown();
+        feedText(x, " ".repeat(1191) + "meter use");
+        due("a word up to the very end", x.town(), -4);
+        due("its end", x.fault(1), 1200);
+        x = new WheelTown();
+        feedText(x, " ".repeat(1189) + "meter use 9");
+        due("a number up to the very end", x.town(), -4);
+        due("its end", x.fault(1), 1200);
+        x = new WheelTown();
+        feedText(x, ONE + " ".repeat(1166));
+        due("blanks up to the very end", x.town(), 1);
     }
 
     private static final String ALL =
