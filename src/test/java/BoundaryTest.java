@@ -654,6 +654,7 @@ public final class BoundaryTest {
             }
             due("vacant", x.vacant(0), span[1] - span[0] + 1);
         }
+        manyChanges();
         sentence = "II, of each LEAK its rate, from its DAY on; of each FLUSH its litres, on its DAY";
         for (int day : new int[] {0, 1, 364, 365, 729}) {
             x = of("meter use 0 digits 6 age 0 at 0 0;meter below 0 use 0 digits 6 age 0 at 0 0;"
@@ -666,6 +667,35 @@ public final class BoundaryTest {
                 due("flow(1, " + d + ", 3)", x.flow(1, d, 3), ahead);
                 due("flow(0, " + d + ", 2), without a PIPE", x.flow(0, d, 2), 0);
             }
+        }
+    }
+
+    /** As many changes as a TOWN can tell of, each on a DAY of its own, the last of them on the last DAYS. */
+    private static void manyChanges() {
+        sentence = "II, six LEAKS, FLUSHES and EMPTIES, and both summers";
+        int[] firsts = {0, 100, 300, 400, 610, 688};
+        StringBuilder text = new StringBuilder("meter use 1 summer 500 digits 6 age 0 at 0 0;"
+                + "meter below 0 use 100 digits 6 age 0 at 0 0;");
+        for (int first : firsts) {
+            text.append("leak 1 rate 1 since ").append(first + 1).append(';');
+            text.append("flush 1 litres 1000 on ").append(first + 11).append(';');
+            text.append("empty 1 from ").append(first + 31).append(" to ").append(first + 40).append(';');
+        }
+        WheelTown x = of(text.toString());
+        int turns = 0;
+        for (int day = 0; day < 730; day++) {
+            int of = day % 365;
+            int through = of >= 150 && of < 240 ? 501 : 1;
+            boolean isEmpty = false;
+            for (int first : firsts) {
+                through += day >= first + 1 ? 1 : 0;
+                through += day == first + 11 ? 1000 : 0;
+                isEmpty |= day >= first + 31 && day <= first + 40;
+            }
+            through += isEmpty ? 0 : 100;
+            turns += through;
+            due("flow(0, " + day + ", 1)", x.flow(0, day, 1), through);
+            due("wheel(0, " + day + ")", x.wheel(0, day), turns);
         }
     }
 
@@ -1068,8 +1098,12 @@ public final class BoundaryTest {
         x.reading(0, 0, 40, 0);
         due("one", x.span(2), 0);
         x.undo(1);
+        due("all again, when it is gone", x.span(2), 39);
         x.reading(0, 0, 41, 0);
         due("none", x.span(2), NONE);
+        due("none", x.leak(3), 0);
+        x.undo(1);
+        due("all again, when it is gone", x.leak(3), 2 * 520);
     }
 
     // ---- Terms VII
