@@ -442,27 +442,20 @@ public final class WheelTown {
 
     // ---- SUPPOSED LEAKS
 
-    private Supposed sought() {
-        if (!supposed.fresh) {
-            supposed.seek(town, readings, stretches);
-        }
-        return supposed;
-    }
-
     public int leak(int what) {
         if (!isWithin(what, 0, 3)) {
             return NONE;
         }
-        Supposed s = sought();
+        supposed.seek(town, readings, stretches);
         switch (what) {
             case 0:
-                return s.firstPipe;
+                return supposed.firstPipe;
             case 1:
-                return s.firstRate;
+                return supposed.firstRate;
             case 2:
-                return s.firstSince;
+                return supposed.firstSince;
             default:
-                return s.many;
+                return supposed.many;
         }
     }
 
@@ -470,7 +463,8 @@ public final class WheelTown {
         if (!isMeter(meter)) {
             return NONE_SUCH;
         }
-        return sought().rateSpan(meter);
+        supposed.seek(town, readings, stretches);
+        return supposed.rateSpan(meter);
     }
 
     // ---- what a next READING would tell
@@ -1812,7 +1806,11 @@ public final class WheelTown {
         int firstSince = NONE;
         boolean fresh = false;
 
+        /** What was found stands until the TOWN or READINGS change. */
         void seek(Town town, Readings readings, Stretches s) {
+            if (fresh) {
+                return;
+            }
             many = 0;
             firstPipe = NONE;
             firstRate = NONE;
@@ -1917,6 +1915,8 @@ public final class WheelTown {
     /** The fewest minutes past sets of METERS, and the best of all sets. */
     private static final class Walks {
         static final int SETS = 1 << METERS_MOST;
+        /** Longer than any way: at most 11 METERS, each 198 minutes from the one ahead. */
+        static final int TOO_FAR = 10000;
 
         /**
          * By set (without METER 0, at which all WALKS start) and METER, the minutes from that METER
@@ -1974,7 +1974,7 @@ public final class WheelTown {
             if (half == 0) {
                 return 0;
             }
-            int fewest = Integer.MAX_VALUE;
+            int fewest = TOO_FAR;
             int left = half;
             for (int i = 0; i < METERS_MOST && left != 0; i++) {
                 int next = firstBit(left) + 1;

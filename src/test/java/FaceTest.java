@@ -11,6 +11,8 @@ import java.util.Arrays;
 import java.util.List;
 import java.util.Random;
 import java.util.TreeSet;
+import java.util.regex.Matcher;
+import java.util.regex.Pattern;
 
 /** The public face, wild arguments in many states, what a run makes, and rules that a search can see. */
 public final class FaceTest {
@@ -97,9 +99,33 @@ public final class FaceTest {
                 complain("NONE is not as due");
             }
         }
+        size(c);
         for (Class<?> inner : c.getDeclaredClasses()) {
             if (!Modifier.isStatic(inner.getModifiers()) || !Modifier.isPrivate(inner.getModifiers())) {
                 complain("class " + inner.getName());
+            }
+            size(inner);
+        }
+    }
+
+    /** Rules 3, 5 and 11, as far as a class that is compiled shows them. */
+    private static void size(Class<?> c) {
+        int own = 0;
+        for (Field f : c.getDeclaredFields()) {
+            own += Modifier.isStatic(f.getModifiers()) ? 0 : 1;
+            Class<?> type = f.getType();
+            boolean isConstant = type == int.class || type == long.class || type == boolean.class
+                    || type == char.class || type == String.class || type == int[].class;
+            if (Modifier.isStatic(f.getModifiers()) && !(Modifier.isFinal(f.getModifiers()) && isConstant)) {
+                complain("static state: " + c.getName() + "." + f.getName());
+            }
+        }
+        if (own > 20) {
+            complain(c.getName() + " has " + own + " fields");
+        }
+        for (Method m : c.getDeclaredMethods()) {
+            if (m.getParameterCount() > 7) {
+                complain(c.getName() + "." + m.getName() + " takes " + m.getParameterCount());
             }
         }
     }
@@ -254,7 +280,25 @@ public final class FaceTest {
         if (code.split("\\bclass\\b").length - 1 > 12) {
             complain("more than twelve classes");
         }
+        library(code);
         longMethods(source);
+    }
+
+    /** Rule 4: nothing of the library but functions that it lists; a constant of it is none. */
+    private static void library(String code) {
+        List<String> listed = Arrays.asList("Integer.bitCount", "Math.abs", "Math.floorMod", "Math.max", "Math.min",
+                "Arrays.fill", "System.arraycopy");
+        Matcher m = Pattern.compile("\\b(Integer|Long|Short|Byte|Character|Boolean|Double|Math|Arrays|System|Object"
+                + "|String|StringBuilder|Objects|Collections)\\s*\\.\\s*(\\w+)").matcher(code);
+        while (m.find()) {
+            if (!listed.contains(m.group(1) + "." + m.group(2))) {
+                complain("the library's " + m.group());
+            }
+        }
+        String imports = code.replaceAll("import java\\.util\\.Arrays;", "");
+        if (imports.contains("import ") || imports.contains("java.")) {
+            complain("an import that is not needed");
+        }
     }
 
     private static void longMethods(String source) {
