@@ -108,12 +108,15 @@ public final class FaceTest {
         }
     }
 
-    /** Rules 3, 5 and 11, as far as a class that is compiled shows them. */
+    /** Rules 3 (of fields), 5 and 11 (fields, parameters), as a class that is compiled shows them. */
     private static void size(Class<?> c) {
         int own = 0;
         for (Field f : c.getDeclaredFields()) {
             own += Modifier.isStatic(f.getModifiers()) ? 0 : 1;
             Class<?> type = f.getType();
+            if (!isAllowed(type)) {
+                complain(c.getName() + "." + f.getName() + " is a " + type.getName());
+            }
             boolean isConstant = type == int.class || type == long.class || type == boolean.class
                     || type == char.class || type == String.class || type == int[].class;
             if (Modifier.isStatic(f.getModifiers()) && !(Modifier.isFinal(f.getModifiers()) && isConstant)) {
@@ -128,6 +131,16 @@ public final class FaceTest {
                 complain(c.getName() + "." + m.getName() + " takes " + m.getParameterCount());
             }
         }
+    }
+
+    /** Numbers, own classes, rows of these, and rows of rows of numbers alone. */
+    private static boolean isAllowed(Class<?> type) {
+        Class<?> row = type.getComponentType();
+        if (row == null) {
+            return type.isPrimitive() || type.getName().startsWith("WheelTown");
+        }
+        Class<?> inner = row.getComponentType();
+        return inner == null ? isAllowed(row) : inner.isPrimitive();
     }
 
     // ---- wild arguments
